@@ -443,6 +443,7 @@ public final class ClassificationYard {
                 return yard.moveFault(first, second, third);
             case REPAIR:
                 return yard.repairFault(first);
+            case TRAIN:
             default:
                 return yard.trainFault(first, second);
         }
@@ -472,6 +473,7 @@ public final class ClassificationYard {
             case REPAIR:
                 yard.cars.mend(first);
                 break;
+            case TRAIN:
             default:
                 yard.sendTrain(first);
                 break;
@@ -630,9 +632,9 @@ public final class ClassificationYard {
         private void combineOver(int via, int one) {
             int toVia = matrix.get(cell(one, via));
             for (int other = 0; other < size; other++) {
-                int steps = toVia + matrix.get(cell(via, other));
-                if (steps < matrix.get(cell(one, other))) {
-                    matrix.set(cell(one, other), steps);
+                int overVia = toVia + matrix.get(cell(via, other));
+                if (overVia < matrix.get(cell(one, other))) {
+                    matrix.set(cell(one, other), overVia);
                 }
             }
         }
@@ -1181,6 +1183,7 @@ public final class ClassificationYard {
                     return "shunt D>D D";
                 case REPAIR:
                     return "repair N";
+                case TRAIN:
                 default:
                     return "train D D";
             }
@@ -1198,17 +1201,17 @@ public final class ClassificationYard {
         }
 
         private boolean readPart(char part) {
-            switch (part) {
-                case 'D':
-                    return readNumber(1);
-                case 'N':
-                    return readNumber(2);
-                case '!':
-                    keepValue(readSign('!') ? 1 : 0);
-                    return true;
-                default:
-                    return readSign(part);
+            if (part == 'D') {
+                return readNumber(1);
             }
+            if (part == 'N') {
+                return readNumber(2);
+            }
+            if (part == '!') {
+                keepValue(readSign('!') ? 1 : 0);
+                return true;
+            }
+            return readSign(part);
         }
 
         private boolean readNumber(int mostDigits) {

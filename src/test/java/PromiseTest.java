@@ -35,6 +35,7 @@ public final class PromiseTest {
         promise22RouteTrack();
         promise23ShuntingTime();
         promise24NearestFreeTrack();
+        promise24NearestForLastCarAlone();
         promise25CarCount();
         promise26IsInYard();
         promise27TrackOf();
@@ -59,6 +60,7 @@ public final class PromiseTest {
         promise45OutputAt();
         promise46Undo();
         promise46UndoEachMethod();
+        promise46UndoBringsCarsBackWhole();
         promise46UndoLeavesTheRest();
         promise47Save();
         promise48Restore();
@@ -258,9 +260,11 @@ public final class PromiseTest {
         for (int car = 1; car <= 20; car++) {
             Check.same("addCar", car, yard.addCar(car % 2, 5, 10, 3, false));
         }
-        refuses("a car too many", STATE, yard, () -> yard.addCar(0, 5, 10, 0, false));
-        refuses("a car too many that does not fit", STATE, yard, () -> yard.addCar(2, 30, 10, 0, false));
-        refuses("a car too many that is wrong", ARGUMENT, yard, () -> yard.addCar(0, 5, 9, 0, false));
+        Check.refuses("a car too many", STATE, () -> yard.addCar(0, 5, 10, 0, false));
+        Check.refuses("a car too many that does not fit", STATE, () -> yard.addCar(2, 30, 10, 0, false));
+        Check.refuses("a car too many that is wrong", ARGUMENT, () -> yard.addCar(0, 5, 9, 0, false));
+        Check.same("free length after the exceptions", 150, yard.freeLength(0));
+        Check.same("cars after the exceptions", 20, yard.carCount());
         Check.same("departing cars", 10, yard.depart(0, 3));
         Check.same("numbers are not used twice", 21, yard.addCar(0, 5, 10, 0, false));
         Check.same("next number", 22, yard.addCar(0, 5, 10, 0, false));
@@ -294,24 +298,32 @@ public final class PromiseTest {
     private static void promise06ShuntOrderOfExceptions() {
         ClassificationYard yard = lineYard();
         yard.addTrack(44, 5);
-        refuses("shunt(-1, 0, 1)", INDEX, yard, () -> yard.shunt(-1, 0, 1));
-        refuses("shunt(0, 4, 0)", INDEX, yard, () -> yard.shunt(0, 4, 0));
-        refuses("shunt(4, 4, 1)", INDEX, yard, () -> yard.shunt(4, 4, 1));
-        refuses("shunt(0, 0, 1)", ARGUMENT, yard, () -> yard.shunt(0, 0, 1));
-        refuses("shunt(0, 1, 0)", ARGUMENT, yard, () -> yard.shunt(0, 1, 0));
-        refuses("shunt(0, 1, 10)", ARGUMENT, yard, () -> yard.shunt(0, 1, 10));
-        refuses("shunt(0, 1, lowest)", ARGUMENT, yard, () -> yard.shunt(0, 1, LOWEST));
-        refuses("fewer cars before no route", STATE, yard, () -> yard.shunt(0, 3, 4));
-        refuses("fewer cars", STATE, yard, () -> yard.shunt(0, 1, 4));
-        refuses("no route before no room", NO_ELEMENT, yard, () -> yard.shunt(0, 3, 3));
-        refuses("no route", NO_ELEMENT, yard, () -> yard.shunt(0, 3, 1));
+        String before = picture(yard);
+        Check.refuses("shunt(-1, 0, 1)", INDEX, () -> yard.shunt(-1, 0, 1));
+        Check.refuses("shunt(0, 4, 0)", INDEX, () -> yard.shunt(0, 4, 0));
+        Check.refuses("shunt(4, 4, 1)", INDEX, () -> yard.shunt(4, 4, 1));
+        Check.refuses("shunt(0, 0, 1)", ARGUMENT, () -> yard.shunt(0, 0, 1));
+        Check.refuses("shunt(0, 1, 0)", ARGUMENT, () -> yard.shunt(0, 1, 0));
+        Check.refuses("shunt(0, 1, 10)", ARGUMENT, () -> yard.shunt(0, 1, 10));
+        Check.refuses("shunt(0, 1, lowest)", ARGUMENT, () -> yard.shunt(0, 1, LOWEST));
+        Check.refuses("fewer cars before no route", STATE, () -> yard.shunt(0, 3, 4));
+        Check.refuses("fewer cars", STATE, () -> yard.shunt(0, 1, 4));
+        Check.refuses("no route before no room", NO_ELEMENT, () -> yard.shunt(0, 3, 3));
+        Check.refuses("no route", NO_ELEMENT, () -> yard.shunt(0, 3, 1));
+        Check.same("the yard after all of them", before, picture(yard));
+        promise06ShuntWithoutRoom();
+        Check.same("the exact room", 3, exactRoom().shunt(0, 1, 2));
+    }
+
+    private static void promise06ShuntWithoutRoom() {
+        ClassificationYard yard = lineYard();
+        yard.addTrack(44, 5);
         yard.connect(2, 3);
         refuses("45 metres where 44 are free", UNSUPPORTED, yard, () -> yard.shunt(0, 3, 3));
         Check.same("35 metres where 44 are free", 2 + 3 + 5, yard.shunt(0, 3, 2));
         refuses("10 metres where 9 are free", UNSUPPORTED, yard, () -> yard.shunt(0, 3, 1));
         Check.same("cars that stand on a passed track do not matter", 2 + 1, yard.shunt(0, 1, 1));
         Check.same("all the way back", 2 + 3 + 1, yard.shunt(3, 0, 2));
-        Check.same("the exact room", 3, exactRoom().shunt(0, 1, 2));
     }
 
     private static ClassificationYard exactRoom() {
@@ -338,6 +350,10 @@ public final class PromiseTest {
         Check.same("repair(4)", 0, yard.repair(4));
         yard.depart(1, 0);
         refuses("repair of a car that departed", NO_ELEMENT, yard, () -> yard.repair(4));
+        ClassificationYard defective = flatYard(1);
+        defective.addCar(0, 5, 10, 0, true);
+        defective.addCar(0, 5, 10, 0, true);
+        Check.same("the first car stays defective", 1, defective.repair(2));
     }
 
     private static void promise08Depart() {
@@ -548,17 +564,17 @@ public final class PromiseTest {
         checkRoute(split, 0, 2, 2);
         checkRoute(split, 3, 1, 1);
         checkRoute(split, 3, 3, 0);
-        refuses("routeLength(0, 1)", NO_ELEMENT, split, () -> split.routeLength(0, 1));
-        refuses("routeLengthByMatrix(0, 1)", NO_ELEMENT, split, () -> split.routeLengthByMatrix(0, 1));
-        refuses("routeLength(0, 5)", INDEX, split, () -> split.routeLength(0, 5));
-        refuses("routeLength(5, 0)", INDEX, split, () -> split.routeLength(5, 0));
-        refuses("routeLength(-1, -1)", INDEX, split, () -> split.routeLength(-1, -1));
-        refuses("routeLengthByMatrix(0, 5)", INDEX, split, () -> split.routeLengthByMatrix(0, 5));
-        refuses("routeLengthByMatrix(5, 0)", INDEX, split, () -> split.routeLengthByMatrix(5, 0));
-        refuses("routeLengthByMatrix(-1, -1)", INDEX, split, () -> split.routeLengthByMatrix(-1, -1));
+        Check.refuses("routeLength(0, 1)", NO_ELEMENT, () -> split.routeLength(0, 1));
+        Check.refuses("routeLengthByMatrix(0, 1)", NO_ELEMENT, () -> split.routeLengthByMatrix(0, 1));
+        Check.refuses("routeLength(0, 5)", INDEX, () -> split.routeLength(0, 5));
+        Check.refuses("routeLength(5, 0)", INDEX, () -> split.routeLength(5, 0));
+        Check.refuses("routeLength(-1, -1)", INDEX, () -> split.routeLength(-1, -1));
+        Check.refuses("routeLengthByMatrix(0, 5)", INDEX, () -> split.routeLengthByMatrix(0, 5));
+        Check.refuses("routeLengthByMatrix(5, 0)", INDEX, () -> split.routeLengthByMatrix(5, 0));
+        Check.refuses("routeLengthByMatrix(-1, -1)", INDEX, () -> split.routeLengthByMatrix(-1, -1));
         split.disconnect(4, 2);
-        refuses("routeLength(0, 2) when cut", NO_ELEMENT, split, () -> split.routeLength(0, 2));
-        refuses("routeLengthByMatrix(0, 2) when cut", NO_ELEMENT, split, () -> split.routeLengthByMatrix(0, 2));
+        Check.refuses("routeLength(0, 2) when cut", NO_ELEMENT, () -> split.routeLength(0, 2));
+        Check.refuses("routeLengthByMatrix(0, 2) when cut", NO_ELEMENT, () -> split.routeLengthByMatrix(0, 2));
     }
 
     private static void checkRoute(ClassificationYard yard, int from, int to, int due) {
@@ -582,13 +598,13 @@ public final class PromiseTest {
         yard.disconnect(0, 2);
         Check.same("route 0 to 7 by the third track", "0347", routeOf(yard, 0, 7));
         Check.same("a track and itself", "5", routeOf(yard, 5, 5));
-        refuses("no such position", NO_ELEMENT, yard, () -> yard.routeTrack(0, 7, 4));
-        refuses("position -1", NO_ELEMENT, yard, () -> yard.routeTrack(0, 7, -1));
-        refuses("position highest", NO_ELEMENT, yard, () -> yard.routeTrack(0, 7, HIGHEST));
-        refuses("position 1 of a track and itself", NO_ELEMENT, yard, () -> yard.routeTrack(5, 5, 1));
-        refuses("no route", NO_ELEMENT, yard, () -> yard.routeTrack(0, 1, 0));
-        refuses("routeTrack(8, 0, 0)", INDEX, yard, () -> yard.routeTrack(8, 0, 0));
-        refuses("routeTrack(0, -1, 9)", INDEX, yard, () -> yard.routeTrack(0, -1, 9));
+        Check.refuses("no such position", NO_ELEMENT, () -> yard.routeTrack(0, 7, 4));
+        Check.refuses("position -1", NO_ELEMENT, () -> yard.routeTrack(0, 7, -1));
+        Check.refuses("position highest", NO_ELEMENT, () -> yard.routeTrack(0, 7, HIGHEST));
+        Check.refuses("position 1 of a track and itself", NO_ELEMENT, () -> yard.routeTrack(5, 5, 1));
+        Check.refuses("no route", NO_ELEMENT, () -> yard.routeTrack(0, 1, 0));
+        Check.refuses("routeTrack(8, 0, 0)", INDEX, () -> yard.routeTrack(8, 0, 0));
+        Check.refuses("routeTrack(0, -1, 9)", INDEX, () -> yard.routeTrack(0, -1, 9));
     }
 
     private static void promise23ShuntingTime() {
@@ -600,16 +616,17 @@ public final class PromiseTest {
         Check.same("shuntingTime(0, 2, 2)", 7, yard.shuntingTime(0, 2, 2));
         Check.same("shuntingTime(0, 2, 3)", 7, yard.shuntingTime(0, 2, 3));
         Check.same("the yard after asking", before, picture(yard));
-        refuses("no such track", INDEX, yard, () -> yard.shuntingTime(0, 4, 0));
-        refuses("track -1", INDEX, yard, () -> yard.shuntingTime(-1, 0, 1));
-        refuses("the same track", ARGUMENT, yard, () -> yard.shuntingTime(0, 0, 1));
-        refuses("count 0", ARGUMENT, yard, () -> yard.shuntingTime(0, 1, 0));
-        refuses("count 10", ARGUMENT, yard, () -> yard.shuntingTime(0, 1, 10));
-        refuses("fewer cars", NO_ELEMENT, yard, () -> yard.shuntingTime(0, 1, 4));
-        refuses("no route", NO_ELEMENT, yard, () -> yard.shuntingTime(0, 3, 1));
+        Check.refuses("no such track", INDEX, () -> yard.shuntingTime(0, 4, 0));
+        Check.refuses("track -1", INDEX, () -> yard.shuntingTime(-1, 0, 1));
+        Check.refuses("the same track", ARGUMENT, () -> yard.shuntingTime(0, 0, 1));
+        Check.refuses("count 0", ARGUMENT, () -> yard.shuntingTime(0, 1, 0));
+        Check.refuses("count 10", ARGUMENT, () -> yard.shuntingTime(0, 1, 10));
+        Check.refuses("fewer cars", NO_ELEMENT, () -> yard.shuntingTime(0, 1, 4));
+        Check.refuses("no route", NO_ELEMENT, () -> yard.shuntingTime(0, 3, 1));
         yard.addCar(2, 6, 10, 0, false);
-        refuses("no room", NO_ELEMENT, yard, () -> yard.shuntingTime(0, 2, 3));
-        Check.same("undo finds no trace of asking", 7, yard.undo());
+        Check.refuses("no room", NO_ELEMENT, () -> yard.shuntingTime(0, 2, 3));
+        yard.undo();
+        Check.same("the yard after the exceptions", before, picture(yard));
     }
 
     private static void promise24NearestFreeTrack() {
@@ -639,8 +656,21 @@ public final class PromiseTest {
         Check.same("the last one that is left", 2, yard.nearestFreeTrack(0));
         yard.disconnect(0, 2);
         refuses("no track with room", NO_ELEMENT, yard, () -> yard.nearestFreeTrack(0));
+        Check.same("to track 0", 0, yard.nearestFreeTrack(1));
         refuses("nearestFreeTrack(5)", INDEX, yard, () -> yard.nearestFreeTrack(5));
         refuses("nearestFreeTrack(-1)", INDEX, yard, () -> yard.nearestFreeTrack(-1));
+    }
+
+    private static void promise24NearestForLastCarAlone() {
+        ClassificationYard yard = new ClassificationYard();
+        yard.addTrack(100, 0);
+        yard.addTrack(100, 1);
+        yard.addTrack(50, 0);
+        yard.connect(0, 1);
+        yard.connect(0, 2);
+        yard.addCar(0, 30, 10, 0, true);
+        yard.addCar(0, 30, 10, 0, false);
+        Check.same("the brakes of the other cars do not count", 1, yard.nearestFreeTrack(0));
     }
 
     // ---- queries about cars
@@ -851,6 +881,11 @@ public final class PromiseTest {
         ClassificationYard line = flatYard(8, 0, 1, 1, 2, 2, 3, 3, 4, 4, 5, 5, 6, 6, 7);
         Check.same("seven commands", 7, runText(line, "cut 0-1;cut 1-2;cut 2-3;cut 3-4;cut 4-5;cut 5-6;cut 6-7"));
         Check.same("connections after seven cuts", 1, line.connect(0, 7));
+        Check.same("run of an emptied buffer", "throws.IllegalArgumentException", runText(line, "cut 7-"));
+        Check.same("what the buffer held before does not count", 6, line.errorPosition());
+        runText(line, "car 0 10 10 0!");
+        runText(line, "car 0 10 10 0");
+        Check.same("nor a mark that stood there", false, line.isDefective(2));
     }
 
     private static void promise41RunEachCommand() {
@@ -1057,6 +1092,23 @@ public final class PromiseTest {
         Check.same("the next car after undo of " + what, 4, yard.addCar(3, 10, 10, 0, false));
     }
 
+    /** A car that comes after a departure may take over what the object held of the one that left. */
+    private static void promise46UndoBringsCarsBackWhole() {
+        ClassificationYard yard = lineYard();
+        yard.repair(2);
+        yard.shunt(0, 1, 1);
+        yard.depart(0, 2);
+        yard.addCar(0, 30, 90, 9, true);
+        yard.undo();
+        Check.same("undo of addCar and depart", 6, yard.undo());
+        Check.same("destination", 2, yard.destination(2));
+        Check.same("brakes", false, yard.isDefective(2));
+        Check.same("weight of the track", 100, yard.weightOn(0));
+        yard.shunt(0, 1, 1);
+        Check.same("free length without the car", 50, yard.freeLength(0));
+        Check.same("free length with the car", 65, yard.freeLength(1));
+    }
+
     private static void promise46UndoLeavesTheRest() {
         ClassificationYard yard = new ClassificationYard();
         yard.addTrack(50, 0);
@@ -1094,6 +1146,13 @@ public final class PromiseTest {
         empty.addTrack(10, 0);
         empty.restore();
         Check.same("an empty state can be saved", 0, empty.trackCount());
+        ClassificationYard rebuilt = new ClassificationYard();
+        rebuilt.addTrack(50, 3);
+        rebuilt.save();
+        rebuilt.undo();
+        rebuilt.addTrack(70, 1);
+        rebuilt.restore();
+        Check.same("the saved track", "0/3[0/50]", lineOf(rebuilt, 0));
     }
 
     private static void promise48Restore() {
