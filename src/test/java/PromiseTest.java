@@ -1,16 +1,5 @@
-import java.util.NoSuchElementException;
-
 /** Promises 1 to 48 one by one: ordinary inputs, the edges that the document names, and wrong inputs. */
-public final class PromiseTest {
-    private static final Class<IllegalArgumentException> ARGUMENT = IllegalArgumentException.class;
-    private static final Class<IllegalStateException> STATE = IllegalStateException.class;
-    private static final Class<IndexOutOfBoundsException> INDEX = IndexOutOfBoundsException.class;
-    private static final Class<NoSuchElementException> NO_ELEMENT = NoSuchElementException.class;
-    private static final Class<UnsupportedOperationException> UNSUPPORTED = UnsupportedOperationException.class;
-    private static final Class<ArithmeticException> ARITHMETIC = ArithmeticException.class;
-    private static final int LOWEST = Integer.MIN_VALUE;
-    private static final int HIGHEST = Integer.MAX_VALUE;
-
+public final class PromiseTest extends YardChecks {
     public static void main(String[] arguments) {
         promise01NewObject();
         promise02AddTrack();
@@ -65,97 +54,6 @@ public final class PromiseTest {
         promise47Save();
         promise48Restore();
         Check.finish("PromiseTest");
-    }
-
-    // ---- yards and helpers
-
-    /** Tracks 60/1, 100/0 and 50/3 in a line; on track 0 cars 1 (to 7), 2 (to 2, defective) and 3 (to 7). */
-    private static ClassificationYard lineYard() {
-        ClassificationYard yard = new ClassificationYard();
-        yard.addTrack(60, 1);
-        yard.addTrack(100, 0);
-        yard.addTrack(50, 3);
-        yard.connect(0, 1);
-        yard.connect(1, 2);
-        yard.addCar(0, 10, 40, 7, false);
-        yard.addCar(0, 15, 60, 2, true);
-        yard.addCar(0, 20, 30, 7, false);
-        return yard;
-    }
-
-    /** So many tracks of 200 metres without a slope, with the connections that are given in pairs. */
-    private static ClassificationYard flatYard(int tracks, int... ends) {
-        ClassificationYard yard = new ClassificationYard();
-        for (int track = 0; track < tracks; track++) {
-            yard.addTrack(200, 0);
-        }
-        for (int i = 0; i + 1 < ends.length; i += 2) {
-            yard.connect(ends[i], ends[i + 1]);
-        }
-        return yard;
-    }
-
-    private static void addCarsFor(ClassificationYard yard, int track, int... destinations) {
-        for (int destination : destinations) {
-            yard.addCar(track, 5, 10, destination, false);
-        }
-    }
-
-    private static void type(ClassificationYard yard, String text) {
-        for (int i = 0; i < text.length(); i++) {
-            yard.append(text.charAt(i));
-        }
-    }
-
-    private static Object runText(ClassificationYard yard, String text) {
-        type(yard, text);
-        return Check.answerOf(yard::run);
-    }
-
-    private static String carsOf(ClassificationYard yard, int track) {
-        StringBuilder cars = new StringBuilder();
-        for (int place = 0; place < yard.carsOn(track); place++) {
-            cars.append(yard.carAt(track, place)).append(' ');
-        }
-        return cars.toString().trim();
-    }
-
-    private static String lineOf(ClassificationYard yard, int track) {
-        int length = yard.writeTrack(track);
-        StringBuilder line = new StringBuilder();
-        for (int i = 0; i < length; i++) {
-            line.append(yard.outputAt(i));
-        }
-        return line.toString();
-    }
-
-    /** All that undo and restore concern, as far as the face shows it without changing anything. */
-    private static String picture(ClassificationYard yard) {
-        StringBuilder text = new StringBuilder();
-        int tracks = yard.trackCount();
-        for (int track = 0; track < tracks; track++) {
-            text.append(yard.freeLength(track)).append(' ').append(yard.weightOn(track)).append(':');
-            for (int place = 0; place < yard.carsOn(track); place++) {
-                int car = yard.carAt(track, place);
-                text.append(' ').append(car).append('/').append(yard.destination(car));
-                text.append(yard.isDefective(car) ? "!" : "");
-            }
-            for (int other = 0; other < track; other++) {
-                text.append(yard.areConnected(track, other) ? " joined " + other : "");
-            }
-            text.append('\n');
-        }
-        text.append(yard.carCount()).append(' ').append(yard.time()).append(' ').append(yard.moveCount());
-        text.append(' ').append(yard.departedCars()).append(' ').append(yard.departedWeight());
-        return text.toString();
-    }
-
-    /** The call throws, and nothing that the face shows has changed. */
-    private static void refuses(String what, Class<? extends RuntimeException> type, ClassificationYard yard,
-            Check.Call call) {
-        String before = picture(yard);
-        Check.refuses(what, type, call);
-        Check.same("the yard after " + what, before, picture(yard));
     }
 
     // ---- a new object, tracks and switches
@@ -1072,11 +970,6 @@ public final class PromiseTest {
         checkUndo("repair", yard -> yard.repair(2));
         checkUndo("depart", yard -> yard.depart(0, 7));
         checkUndo("run", yard -> runText(yard, "shunt 0>1 3;cut 0-1;track 20 0"));
-    }
-
-    /** A use of a yard, with its answer. */
-    private interface Use {
-        Object answerOf(ClassificationYard yard);
     }
 
     private static void checkUndo(String what, Use change) {
