@@ -36,6 +36,7 @@ public final class ProgramBoundaryTest extends YardChecks {
         failsByEachException();
         noneOfThemHasAnEffect();
         textThatIsNoProgramBeforeAFailedCommand();
+        refusedRunLeavesTheRest();
         noErrorPositionWasStored();
         noFailedCommandWasStored();
         errorPositionThatWasStoredLast();
@@ -474,6 +475,30 @@ public final class ProgramBoundaryTest extends YardChecks {
             runText(wrong, "cut 0-1;car 0 5 10 0;track 10 0;");
             return wrong;
         });
+    }
+
+    /** "Nothing changes, except that run empties the text buffer and stores" one of the two positions. */
+    private static void refusedRunLeavesTheRest() {
+        Recipe noProgram = () -> {
+            ClassificationYard yard = usedYard();
+            Check.same("no program", NO_PROGRAM, runText(yard, ";cut 0-1;track 10 0; "));
+            return yard;
+        };
+        Recipe failed = () -> {
+            ClassificationYard yard = usedYard();
+            Check.same("a failed command", FAILED, runText(yard, ";cut 0-1;track 10 0;cut 0-1"));
+            return yard;
+        };
+        Trace.sameState("after no program", YardChecks::usedYard, noProgram);
+        Trace.sameState("after a failed command", YardChecks::usedYard, failed);
+        Check.same("the error position is stored", 28, noProgram.make().errorPosition());
+        Check.same("the failed command stays", 1, noProgram.make().failedCommand());
+        Check.same("the failed command is stored", 3, failed.make().failedCommand());
+        Check.same("the error position stays", 6, failed.make().errorPosition());
+        Check.same("the line after no program", "0/1[25/60] 1:7 2:2!", Trace.outputOf(noProgram.make()));
+        Check.same("the line after a failed command", "0/1[25/60] 1:7 2:2!", Trace.outputOf(failed.make()));
+        Check.same("the text after no program", 1, noProgram.make().append('x'));
+        Check.same("the text after a failed command", 1, failed.make().append('x'));
     }
 
     // ---- what run stores
