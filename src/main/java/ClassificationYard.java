@@ -1115,7 +1115,8 @@ public final class ClassificationYard {
         private final Row values = new Row(COMMAND_LIMIT * VALUES_PER_COMMAND);
         /** The index of the character that is read next. */
         private int at;
-        private int valueTotal;
+        /** Where the next value of the command goes. */
+        private int nextValue;
 
         int add(char character) {
             if (length >= 0 && length < text.length) {
@@ -1191,7 +1192,7 @@ public final class ClassificationYard {
 
         private boolean fits(String shape, int start) {
             at = start;
-            valueTotal = 0;
+            nextValue = commandTotal * VALUES_PER_COMMAND;
             for (int i = 0; i < shape.length(); i++) {
                 if (!readPart(shape.charAt(i))) {
                     return false;
@@ -1208,7 +1209,8 @@ public final class ClassificationYard {
                 return readNumber(2);
             }
             if (part == '!') {
-                keepValue(readSign('!') ? 1 : 0);
+                values.set(nextValue, readSign('!') ? 1 : 0);
+                nextValue++;
                 return true;
             }
             return readSign(part);
@@ -1222,7 +1224,8 @@ public final class ClassificationYard {
                 digits++;
                 at++;
             }
-            keepValue(number);
+            values.set(nextValue, number);
+            nextValue++;
             return digits > 0;
         }
 
@@ -1232,11 +1235,6 @@ public final class ClassificationYard {
             }
             at++;
             return true;
-        }
-
-        private void keepValue(int value) {
-            values.set(commandTotal * VALUES_PER_COMMAND + valueTotal, value);
-            valueTotal++;
         }
 
         private static boolean isDigit(int sign) {
